@@ -1,10 +1,16 @@
+import java.lang.reflect.InvocationTargetException;
+import java.lang.reflect.Method;
+import java.lang.reflect.Modifier;
+import java.util.Comparator;
 import java.util.Objects;
+import java.util.stream.Stream;
 
 /** Counts answers that are not the due ones. */
 final class Checks {
     interface Call { Object answer(); }
 
     private int wrong = 0;
+    private int ran = 0;
     private String where = "";
 
     void at(String place) {
@@ -33,6 +39,42 @@ final class Checks {
         }
     }
 
+    void dueNoThrow(Call call) {
+        try {
+            call.answer();
+        } catch (RuntimeException e) {
+            wrong++;
+            StackTraceElement line = new Throwable().getStackTrace()[1];
+            System.out.println(where + ", line " + line.getLineNumber() + ": threw " + e.getClass() + ", due is an answer");
+        }
+    }
+
+    /** Runs every test of a class: its static methods that take and return nothing. One that throws is not as due. */
+    void runAll(Class<?> tests) {
+        Stream.of(tests.getDeclaredMethods()).filter(Checks::isTest).sorted(Comparator.comparing(Method::getName)).forEach(this::run);
+        end(tests.getName());
+    }
+
+    private static boolean isTest(Method m) {
+        return Modifier.isStatic(m.getModifiers()) && m.getParameterCount() == 0 && m.getReturnType() == void.class && !m.isSynthetic();
+    }
+
+    private void run(Method test) {
+        where = test.getName();
+        ran++;
+        try {
+            test.setAccessible(true);
+            test.invoke(null);
+        } catch (InvocationTargetException e) {
+            wrong++;
+            StackTraceElement[] rows = e.getCause().getStackTrace();
+            System.out.println(where + ": threw " + e.getCause() + (rows.length > 0 ? " " + rows[0] : ""));
+        } catch (IllegalAccessException e) {
+            wrong++;
+            System.out.println(where + ": can't be called");
+        }
+    }
+
     /** Whether the program threw it itself, and not the library or the machine for it. */
     static boolean isThrownByProgram(RuntimeException e) {
         StackTraceElement[] rows = e.getStackTrace();
@@ -40,7 +82,8 @@ final class Checks {
     }
 
     void end(String name) {
-        System.out.println(wrong == 0 ? name + ": all as due" : name + ": " + wrong + " not as due");
+        String many = ran == 0 ? "" : " (" + ran + " tests)";
+        System.out.println(name + ": " + (wrong == 0 ? "all as due" : wrong + " not as due") + many);
         System.exit(wrong == 0 ? 0 : 1);
     }
 

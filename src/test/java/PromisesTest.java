@@ -60,24 +60,6 @@ final class PromisesTest {
         IS.end("PromisesTest");
     }
 
-    /** A market with one policy of this sum in each zone, numbered as the zones, always in force. */
-    private static Layertreaty market(int sum) {
-        Layertreaty x = new Layertreaty();
-        for (int zone = 0; zone < 4; zone++) {
-            x.policy(sum, zone, 0, 999);
-        }
-        return x;
-    }
-
-    /** The same, with losses of this amount in zone 0, one on each of these days. */
-    private static Layertreaty marketWith(int amount, int... days) {
-        Layertreaty x = market(1000);
-        for (int day : days) {
-            x.loss(0, day, day, amount);
-        }
-        return x;
-    }
-
     private static void newObject() {
         IS.at("promise 1");
         Layertreaty x = new Layertreaty();
@@ -147,7 +129,7 @@ final class PromisesTest {
     private static void lossOrder() {
         IS.at("terms, order of losses");
         // By days, of the same day by numbers: a limit of 10 goes to the third loss, then to the first one.
-        Layertreaty x = marketWith(8, 20, 20, 10, 30);
+        Layertreaty x = Markets.onDays(8, 20, 20, 10, 30);
         x.treaty('r', 'o', 0, 999, 0, 10);
         IS.due(8, x.takenFrom(0, 2));
         IS.due(2, x.takenFrom(0, 0));
@@ -158,7 +140,7 @@ final class PromisesTest {
         IS.due(1, x.takenFrom(0, 2));
         IS.due(0, x.takenFrom(0, 0));
         // The day on which a loss was told is of no meaning for the order.
-        Layertreaty y = market(1000);
+        Layertreaty y = Markets.market(1000);
         y.loss(0, 10, 50, 8);
         y.loss(0, 11, 11, 8);
         y.treaty('r', 'c', 0, 999, 0, 10);
@@ -168,7 +150,7 @@ final class PromisesTest {
 
     private static void setAmount() {
         IS.at("promise 4");
-        Layertreaty x = marketWith(100, 1, 2);
+        Layertreaty x = Markets.onDays(100, 1, 2);
         x.treaty('r', 'o', 0, 999, 10, 50);
         IS.due(50, x.takenFrom(0, 0));
         IS.due(100, x.setAmount(0, 30));
@@ -272,13 +254,13 @@ final class PromisesTest {
         IS.due(2, x.takenFrom(1, 2));
         IS.due(0, x.takenFrom(1, 3));
         // By their numbers: what the first one took the second one has not.
-        Layertreaty y = marketWith(999, 0);
+        Layertreaty y = Markets.onDays(999, 0);
         y.treaty('s', 'o', 0, 999, 300, 20);
         y.treaty('q', 'o', 0, 999, 33, 0);
         IS.due(699, y.takenFrom(0, 0));
         IS.due(99, y.takenFrom(1, 0));
         // All of a great loss of a great policy.
-        Layertreaty z = market(1000000);
+        Layertreaty z = Markets.market(1000000);
         z.loss(0, 0, 0, 1000000);
         z.treaty('s', 'o', 0, 999, 1, 20);
         z.treaty('s', 'o', 0, 999, 100000, 20);
@@ -288,7 +270,7 @@ final class PromisesTest {
 
     private static void eachRisk() {
         IS.at("terms, r");
-        Layertreaty x = marketWith(0, 1, 2, 3, 4, 5);
+        Layertreaty x = Markets.onDays(0, 1, 2, 3, 4, 5);
         x.setAmount(0, 100);
         x.setAmount(1, 101);
         x.setAmount(2, 140);
@@ -311,7 +293,7 @@ final class PromisesTest {
 
     private static void year() {
         IS.at("terms, a");
-        Layertreaty x = marketWith(10, 5, 6, 7);
+        Layertreaty x = Markets.onDays(10, 5, 6, 7);
         x.loss(1, 4, 4, 10);
         x.loss(2, 8, 8, 0);
         x.treaty('a', 'o', 0, 999, 15, 20);
@@ -321,7 +303,7 @@ final class PromisesTest {
         }
         IS.due(0, x.takenFrom(0, 4));
         // 3 are divided among four that have as much: 1 for each of the first three in the order of losses.
-        Layertreaty y = marketWith(10, 5, 6, 7);
+        Layertreaty y = Markets.onDays(10, 5, 6, 7);
         y.loss(1, 4, 4, 10);
         y.treaty('a', 'o', 0, 999, 37, 20);
         IS.due(1, y.takenFrom(0, 3));
@@ -333,7 +315,7 @@ final class PromisesTest {
         y.setDays(1, 1);
         IS.due(1, y.taken(1));
         IS.due(2, y.taken(0));
-        Layertreaty z = marketWith(10, 0, 999);
+        Layertreaty z = Markets.onDays(10, 0, 999);
         z.treaty('a', 'o', 0, 999, 0, 1000000);
         IS.due(20, z.taken(0));
         // No limit ends it: several take one behind the other.
@@ -344,7 +326,7 @@ final class PromisesTest {
 
     private static void setDays() {
         IS.at("promise 6");
-        Layertreaty x = marketWith(10, 1, 3, 4);
+        Layertreaty x = Markets.onDays(10, 1, 3, 4);
         x.treaty('e', 'o', 0, 999, 0, 1000);
         x.treaty('q', 'o', 0, 999, 0, 0);
         IS.due(2, x.events(0, 0));
@@ -363,7 +345,7 @@ final class PromisesTest {
 
     private static void reinstate() {
         IS.at("promise 7");
-        Layertreaty x = marketWith(100, 1, 2, 3, 4, 5, 6, 7);
+        Layertreaty x = Markets.onDays(100, 1, 2, 3, 4, 5, 6, 7);
         x.treaty('r', 'o', 0, 999, 0, 100);
         x.treaty('e', 'o', 0, 999, 0, 100);
         x.treaty('q', 'o', 0, 999, 0, 0);
@@ -391,7 +373,7 @@ final class PromisesTest {
 
     private static void setPremium() {
         IS.at("promise 8");
-        Layertreaty x = marketWith(100, 1);
+        Layertreaty x = Markets.onDays(100, 1);
         x.treaty('r', 'o', 0, 999, 0, 100);
         x.treaty('q', 'o', 0, 999, 0, 0);
         x.reinstate(0, 1, 50, false);
@@ -411,7 +393,7 @@ final class PromisesTest {
 
     private static void share() {
         IS.at("promise 9");
-        Layertreaty x = marketWith(100, 1);
+        Layertreaty x = Markets.onDays(100, 1);
         x.treaty('q', 'o', 0, 999, 100, 0);
         x.treaty('q', 'o', 0, 999, 100, 0);
         IS.due(0, x.share(0, 4, 60));
@@ -434,7 +416,7 @@ final class PromisesTest {
 
     private static void fail() {
         IS.at("promise 10");
-        Layertreaty x = marketWith(100, 1);
+        Layertreaty x = Markets.onDays(100, 1);
         x.treaty('q', 'o', 0, 999, 50, 0);
         x.share(0, 4, 50);
         IS.due(false, x.fail(4, true));
@@ -451,7 +433,7 @@ final class PromisesTest {
 
     private static void handOn() {
         IS.at("promise 11");
-        Layertreaty x = marketWith(100, 1);
+        Layertreaty x = Markets.onDays(100, 1);
         x.treaty('q', 'o', 0, 999, 100, 0);
         x.share(0, 0, 100);
         IS.due(false, x.handOn(0, 1, 30, 50));
@@ -482,7 +464,7 @@ final class PromisesTest {
 
     private static void rings() {
         IS.at("terms, rings of retrocession");
-        Layertreaty x = marketWith(100, 1);
+        Layertreaty x = Markets.onDays(100, 1);
         x.treaty('q', 'o', 0, 999, 100, 0);
         x.share(0, 0, 60);
         x.share(0, 1, 40);
@@ -507,7 +489,7 @@ final class PromisesTest {
         IS.due(60, x.comes(0));
         IS.due(50, x.comes(1));
         // A ring of five into which all comes at one place, and that stops at the least limit.
-        Layertreaty y = marketWith(100, 1);
+        Layertreaty y = Markets.onDays(100, 1);
         y.treaty('q', 'o', 0, 999, 100, 0);
         y.share(0, 2, 100);
         for (int i = 0; i < 5; i++) {
@@ -522,7 +504,7 @@ final class PromisesTest {
         IS.due(1, y.stays(0));
         IS.due(true, y.isSound());
         // Where nothing comes from outside nothing goes round.
-        Layertreaty w = marketWith(100, 1);
+        Layertreaty w = Markets.onDays(100, 1);
         w.handOn(0, 1, 0, 1000000);
         w.handOn(1, 0, 0, 1000000);
         IS.due(0, w.comes(0));
@@ -534,7 +516,7 @@ final class PromisesTest {
         IS.due(98, y.stays(4));
         IS.due(0, y.comes(0));
         // Two rings side by side, one that rises and one that does not, the second one fed from outside.
-        Layertreaty z = marketWith(100, 1);
+        Layertreaty z = Markets.onDays(100, 1);
         z.treaty('q', 'o', 0, 999, 100, 0);
         z.share(0, 0, 10);
         z.share(0, 2, 20);
@@ -555,7 +537,7 @@ final class PromisesTest {
 
     private static void commute() {
         IS.at("promise 12");
-        Layertreaty x = marketWith(100, 1, 2);
+        Layertreaty x = Markets.onDays(100, 1, 2);
         x.treaty('q', 'o', 0, 999, 30, 0);
         x.treaty('r', 'o', 0, 999, 0, 50);
         IS.dueThrow(INDEX, () -> x.commute(2, 0));
@@ -570,7 +552,7 @@ final class PromisesTest {
 
     private static void commutedStays() {
         IS.at("terms, commutation");
-        Layertreaty x = marketWith(100, 1, 2);
+        Layertreaty x = Markets.onDays(100, 1, 2);
         x.treaty('r', 'o', 0, 99, 10, 50);
         x.reinstate(0, 1, 100, true);
         x.setPremium(0, 1000);
@@ -609,7 +591,7 @@ final class PromisesTest {
 
     private static void left() {
         IS.at("promise 13");
-        Layertreaty x = marketWith(100, 1, 2);
+        Layertreaty x = Markets.onDays(100, 1, 2);
         IS.due(100, x.left(1));
         x.treaty('q', 'o', 2, 2, 99, 0);
         IS.due(100, x.left(0));
@@ -621,7 +603,7 @@ final class PromisesTest {
 
     private static void taken() {
         IS.at("promise 14");
-        Layertreaty x = marketWith(100, 1, 2);
+        Layertreaty x = Markets.onDays(100, 1, 2);
         x.treaty('q', 'o', 0, 9, 25, 0);
         IS.due(50, x.taken(0));
         IS.dueThrow(INDEX, () -> x.taken(1));
@@ -630,7 +612,7 @@ final class PromisesTest {
 
     private static void takenFrom() {
         IS.at("promise 15");
-        Layertreaty x = marketWith(100, 1, 2);
+        Layertreaty x = Markets.onDays(100, 1, 2);
         x.setAmount(1, 40);
         x.treaty('q', 'o', 0, 9, 25, 0);
         IS.due(25, x.takenFrom(0, 0));
@@ -645,7 +627,7 @@ final class PromisesTest {
 
     private static void limit() {
         IS.at("promise 16");
-        Layertreaty x = marketWith(100, 1, 9);
+        Layertreaty x = Markets.onDays(100, 1, 9);
         x.treaty('r', 'o', 0, 99, 20, 1000);
         x.treaty('e', 'o', 0, 99, 5, 12);
         x.treaty('q', 'o', 0, 99, 0, 0);
@@ -667,7 +649,7 @@ final class PromisesTest {
         IS.dueThrow(INDEX, () -> x.limit(-1));
         x.commute(1, 0);
         IS.dueThrow(STATE, () -> x.limit(1));
-        Layertreaty y = market(1);
+        Layertreaty y = Markets.market(1);
         y.treaty('e', 'o', 0, 99, 0, 1000000);
         y.reinstate(0, 5, 0, false);
         IS.due(6000000, y.limit(0));
@@ -675,7 +657,7 @@ final class PromisesTest {
 
     private static void reinstated() {
         IS.at("promise 17");
-        Layertreaty x = marketWith(70, 1, 2, 3, 4);
+        Layertreaty x = Markets.onDays(70, 1, 2, 3, 4);
         x.treaty('r', 'o', 0, 99, 0, 100);
         x.treaty('q', 'o', 0, 99, 0, 0);
         IS.due(0, x.reinstated(0));
@@ -693,7 +675,7 @@ final class PromisesTest {
 
     private static void owed() {
         IS.at("promise 18");
-        Layertreaty x = marketWith(70, 11, 22, 33);
+        Layertreaty x = Markets.onDays(70, 11, 22, 33);
         x.treaty('r', 'o', 10, 29, 0, 100);
         x.reinstate(0, 1, 99, false);
         x.setPremium(0, 77);
@@ -724,7 +706,7 @@ final class PromisesTest {
         IS.due(100, y.taken(1));
         IS.due(1000 * 19 / 10, y.owed(1));
         // An event costs once, by its first day.
-        Layertreaty z = marketWith(30, 5, 6, 7);
+        Layertreaty z = Markets.onDays(30, 5, 6, 7);
         z.treaty('e', 'o', 0, 9, 40, 45);
         z.setPremium(0, 1000);
         z.reinstate(0, 1, 100, false);
@@ -732,7 +714,7 @@ final class PromisesTest {
         z.reinstate(0, 1, 100, true);
         IS.due(500, z.owed(0));
         // The greatest numbers.
-        Layertreaty w = market(1);
+        Layertreaty w = Markets.market(1);
         w.loss(0, 0, 0, 1000000);
         w.treaty('r', 'c', 0, 0, 0, 1000000);
         w.setPremium(0, 1000000);
@@ -743,7 +725,7 @@ final class PromisesTest {
         w.setPremium(1, 1000000);
         w.reinstate(1, 5, 200, true);
         IS.due(2000000, w.owed(1));
-        Layertreaty v = market(1);
+        Layertreaty v = Markets.market(1);
         v.loss(0, 0, 999, 1000000);
         v.treaty('r', 'c', 999, 999, 0, 1000000);
         v.setPremium(0, 1000000);
@@ -753,7 +735,7 @@ final class PromisesTest {
 
     private static void events() {
         IS.at("promise 19");
-        Layertreaty x = marketWith(15, 1, 3, 4, 6, 6, 9);
+        Layertreaty x = Markets.onDays(15, 1, 3, 4, 6, 6, 9);
         x.setAmount(5, 9);
         x.loss(3, 500, 500, 1);
         x.loss(2, 500, 500, 0);
@@ -769,7 +751,7 @@ final class PromisesTest {
         IS.dueThrow(ARGUMENT, () -> x.events(0, -1));
         IS.dueThrow(ARGUMENT, () -> x.events(1, 4));
         IS.dueThrow(UNSUPPORTED, () -> x.events(1, 0));
-        Layertreaty y = marketWith(1, 7, 7);
+        Layertreaty y = Markets.onDays(1, 7, 7);
         y.treaty('e', 'o', 0, 999, 0, 1);
         IS.due(1, y.events(0, 0));
         IS.due(1, y.taken(0));
@@ -785,7 +767,7 @@ final class PromisesTest {
     private static void eventsByZoneAndTime() {
         IS.at("terms, events are served");
         // Zones by rising numbers, in each by time: zone 0 first, though its event is later than that of zone 2.
-        Layertreaty x = market(1000);
+        Layertreaty x = Markets.market(1000);
         x.loss(2, 1, 1, 50);
         x.loss(0, 9, 9, 50);
         x.loss(0, 4, 4, 20);
@@ -795,12 +777,12 @@ final class PromisesTest {
         IS.due(0, x.takenFrom(0, 0));
         IS.due(0, x.limit(0));
         // Taken is what is above a and at most b, divided by what is left of each, the remainder by 1 each.
-        Layertreaty y = marketWith(10, 2, 3, 1);
+        Layertreaty y = Markets.onDays(10, 2, 3, 1);
         y.treaty('e', 'o', 0, 999, 5, 20);
         IS.due(7, y.takenFrom(0, 2));
         IS.due(7, y.takenFrom(0, 0));
         IS.due(6, y.takenFrom(0, 1));
-        Layertreaty w = marketWith(10, 1, 1, 1);
+        Layertreaty w = Markets.onDays(10, 1, 1, 1);
         w.setAmount(1, 25);
         w.treaty('e', 'o', 0, 999, 5, 20);
         // 40 of 45, but at most 20: 4.44, 11.11, 4.44, and 1 more for the first one.
@@ -813,7 +795,7 @@ final class PromisesTest {
         IS.due(4, w.takenFrom(1, 1));
         IS.due(1, w.takenFrom(1, 2));
         // The limit is no reason to lay events otherwise.
-        Layertreaty z = marketWith(30, 1, 2);
+        Layertreaty z = Markets.onDays(30, 1, 2);
         z.treaty('e', 'o', 0, 999, 10, 20);
         IS.due(2, z.events(0, 0));
         IS.due(20, z.takenFrom(0, 0));
@@ -823,7 +805,7 @@ final class PromisesTest {
     private static void eventTies() {
         IS.at("terms, of several layings");
         // Greatest first: of 10, 10, 1, 10 on days 1 to 4, within two days, 10 above and at most 5.
-        Layertreaty x = marketWith(10, 1, 2, 3, 4);
+        Layertreaty x = Markets.onDays(10, 1, 2, 3, 4);
         x.setAmount(2, 1);
         x.treaty('e', 'o', 0, 999, 10, 5);
         x.setDays(0, 2);
@@ -832,19 +814,19 @@ final class PromisesTest {
         IS.due(0, x.eventOf(0, 1));
         IS.due(1, x.eventOf(0, 2));
         // Fewer events: nothing is above, so as few as possible, and the first one ends last.
-        Layertreaty y = marketWith(1, 1, 2, 3, 4);
+        Layertreaty y = Markets.onDays(1, 1, 2, 3, 4);
         y.treaty('e', 'o', 0, 999, 10, 5);
         IS.due(2, y.events(0, 0));
         IS.due(0, y.eventOf(0, 2));
         IS.due(1, y.eventOf(0, 3));
         // Then the second one: seven days by threes is 3, 3, 1.
-        Layertreaty z = marketWith(1, 1, 2, 3, 4, 5, 6, 7);
+        Layertreaty z = Markets.onDays(1, 1, 2, 3, 4, 5, 6, 7);
         z.treaty('e', 'o', 0, 999, 10, 5);
         IS.due(3, z.events(0, 0));
         IS.due(1, z.eventOf(0, 5));
         IS.due(2, z.eventOf(0, 6));
         // More is better than fewer: 15, 15 by themselves bring 5 each, together 20.
-        Layertreaty w = marketWith(15, 1, 2);
+        Layertreaty w = Markets.onDays(15, 1, 2);
         w.treaty('e', 'o', 0, 999, 10, 8);
         IS.due(2, w.events(0, 0));
         IS.due(8, w.taken(0));
@@ -853,7 +835,7 @@ final class PromisesTest {
         IS.due(5, w.takenFrom(0, 1));
         // Fewer events count ahead of a first one that ends later: {2}, {4, 5, 6}, {8, 9} brings 19, 11 and 20,
         // {2, 4}, {5}, {6, 8}, {9} brings 20, 0, 10 and 20.
-        Layertreaty u = marketWith(29, 2, 4, 5, 6, 8, 9);
+        Layertreaty u = Markets.onDays(29, 2, 4, 5, 6, 8, 9);
         u.setAmount(1, 5);
         u.setAmount(2, 6);
         u.setAmount(3, 10);
@@ -867,7 +849,7 @@ final class PromisesTest {
         IS.due(1, u.eventOf(0, 3));
         IS.due(true, u.isSame(0));
         // All thirty days, each its own event, or all by nines.
-        Layertreaty v = market(1000);
+        Layertreaty v = Markets.market(1000);
         for (int i = 0; i < 30; i++) {
             v.loss(0, i, i, 20);
         }
@@ -884,7 +866,7 @@ final class PromisesTest {
 
     private static void eventOf() {
         IS.at("promise 20");
-        Layertreaty x = marketWith(15, 1, 3, 4, 6);
+        Layertreaty x = Markets.onDays(15, 1, 3, 4, 6);
         x.loss(1, 2, 2, 15);
         x.loss(0, 5, 5, 0);
         x.loss(0, 100, 100, 15);
@@ -913,7 +895,7 @@ final class PromisesTest {
 
     private static void isSame() {
         IS.at("promise 21");
-        Layertreaty x = market(1000);
+        Layertreaty x = Markets.market(1000);
         x.treaty('e', 'o', 0, 999, 10, 20);
         x.treaty('q', 'o', 0, 999, 0, 0);
         IS.due(true, x.isSame(0));
@@ -940,7 +922,7 @@ final class PromisesTest {
 
     private static void paid() {
         IS.at("promise 22");
-        Layertreaty x = marketWith(99, 1, 2);
+        Layertreaty x = Markets.onDays(99, 1, 2);
         x.treaty('q', 'o', 0, 999, 100, 0);
         x.share(0, 0, 50);
         x.share(0, 4, 1);
@@ -959,7 +941,7 @@ final class PromisesTest {
 
     private static void lost() {
         IS.at("promise 23");
-        Layertreaty x = marketWith(99, 1, 2);
+        Layertreaty x = Markets.onDays(99, 1, 2);
         x.treaty('q', 'o', 0, 999, 50, 0);
         x.treaty('q', 'o', 0, 999, 100, 0);
         x.share(0, 3, 50);
@@ -976,7 +958,7 @@ final class PromisesTest {
 
     private static void comesAndStays() {
         IS.at("promises 24 and 25");
-        Layertreaty x = marketWith(100, 1, 2);
+        Layertreaty x = Markets.onDays(100, 1, 2);
         x.treaty('q', 'o', 0, 999, 50, 0);
         x.treaty('q', 'o', 0, 999, 20, 0);
         x.share(0, 0, 100);
@@ -1007,7 +989,7 @@ final class PromisesTest {
 
     private static void net() {
         IS.at("promise 26");
-        Layertreaty x = marketWith(1000, 1, 2);
+        Layertreaty x = Markets.onDays(1000, 1, 2);
         IS.due(2000, x.net());
         x.treaty('q', 'o', 0, 99, 40, 0);
         IS.due(2000, x.net());
@@ -1056,7 +1038,7 @@ final class PromisesTest {
 
     private static void damage() {
         IS.at("promise 28");
-        Layertreaty x = market(1000);
+        Layertreaty x = Markets.market(1000);
         x.scenario(5, 5);
         IS.due(0, x.damage(0, 3, 100));
         IS.due(100, x.damage(0, 3, 1));
@@ -1129,7 +1111,7 @@ final class PromisesTest {
 
     private static void tail() {
         IS.at("promise 30");
-        Layertreaty x = market(1000);
+        Layertreaty x = Markets.market(1000);
         IS.dueThrow(ELEMENT, () -> x.tail(0));
         IS.dueThrow(ARGUMENT, () -> x.tail(-1));
         IS.dueThrow(ARGUMENT, () -> x.tail(100));
@@ -1149,7 +1131,7 @@ final class PromisesTest {
         IS.due(0, x.tail(90));
         IS.due(0, x.tail(99));
         IS.dueThrow(ARGUMENT, () -> x.tail(MOST));
-        Layertreaty y = market(1);
+        Layertreaty y = Markets.market(1);
         y.scenario(0, 9);
         IS.due(0, y.tail(0));
         IS.due(0, y.tail(99));
@@ -1157,7 +1139,7 @@ final class PromisesTest {
 
     private static void numbers() {
         IS.at("promises 31 to 33");
-        Layertreaty x = marketWith(1000000, 1);
+        Layertreaty x = Markets.onDays(1000000, 1);
         IS.due(1, x.losses());
         IS.due(0, x.treaties());
         IS.due(1000000, x.allLosses());
@@ -1175,7 +1157,7 @@ final class PromisesTest {
 
     private static void leftShare() {
         IS.at("promise 34");
-        Layertreaty x = market(1000);
+        Layertreaty x = Markets.market(1000);
         IS.dueThrow(ARITHMETIC, () -> x.leftShare());
         x.loss(0, 1, 1, 0);
         IS.dueThrow(ARITHMETIC, () -> x.leftShare());
@@ -1186,7 +1168,7 @@ final class PromisesTest {
         x.treaty('q', 'o', 0, 999, 100, 0);
         IS.due(0.0f, x.leftShare());
         // Sums that a float can't hold are converted by themselves, and only then divided.
-        Layertreaty y = market(1);
+        Layertreaty y = Markets.market(1);
         for (int i = 0; i < 29; i++) {
             y.loss(0, 1, 1, 999999);
         }
@@ -1196,7 +1178,7 @@ final class PromisesTest {
 
     private static void meanNet() {
         IS.at("promise 35");
-        Layertreaty x = market(1000);
+        Layertreaty x = Markets.market(1000);
         IS.dueThrow(ARITHMETIC, () -> x.meanNet());
         x.scenario(1, 2);
         IS.due(0.0, x.meanNet());
@@ -1210,7 +1192,7 @@ final class PromisesTest {
 
     private static void isSound() {
         IS.at("promise 36");
-        Layertreaty x = marketWith(777, 1, 2, 3, 5, 8, 13, 21, 34);
+        Layertreaty x = Markets.onDays(777, 1, 2, 3, 5, 8, 13, 21, 34);
         IS.due(true, x.isSound());
         x.treaty('q', 'o', 0, 999, 33, 0);
         x.treaty('s', 'a', 0, 999, 123, 3);
@@ -1230,7 +1212,7 @@ final class PromisesTest {
 
     private static void throwsChangeNothing() {
         IS.at("terms, an exception changes nothing");
-        Layertreaty x = marketWith(100, 1);
+        Layertreaty x = Markets.onDays(100, 1);
         x.treaty('r', 'o', 0, 99, 0, 50);
         x.reinstate(0, 1, 100, false);
         x.setPremium(0, 100);
